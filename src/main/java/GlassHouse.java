@@ -1424,13 +1424,15 @@ public final class GlassHouse {
             if (plant.form != PLANT || !answers(plant.kind, what)) {
                 return faulted(CAST);
             }
+            if (what == ASK_COST) {
+                int cost = costAlone(plant);
+                return plant.kind == CRESS && fault == 0 ? cost + thirstOf(plant) : cost;
+            }
             switch (what) {
                 case ASK_SIZE:
                     return sizeOf(plant, 0);
                 case ASK_THIRST:
                     return thirstOf(plant);
-                case ASK_COST:
-                    return costOf(plant);
                 case ASK_MARK:
                     return markOf(plant);
                 case 4:
@@ -1464,51 +1466,31 @@ public final class GlassHouse {
         }
 
         private int sizeOf(Thing plant, int level) {
-            if (plant == null) {
+            if (plant == null || level > MOST_DEPTH) {
                 return faulted(NULL);
             }
-            switch (plant.kind) {
-                case TOMATO:
-                    return tomatoSize(plant);
-                case GRAFT:
-                    return graftSize(plant, level);
-                case CRESS:
-                    return cressSize(plant);
-                default:
-                    return plainSize(plant);
+            int ofParts = 0;
+            if (plant.kind == GRAFT) {
+                begin(3);
+                for (int k = 0; k < plant.places.length && fault == 0; k++) {
+                    ofParts += sizeOf(plant.places[k], level + 1);
+                }
+                if (fault != 0) {
+                    return 0;
+                }
             }
-        }
-
-        private int plainSize(Thing plant) {
+            if (plant.kind == TOMATO || plant.kind == GRAFT) {
+                begin(2);
+                begin(1);
+                return ofParts + 2 * plant.a + plant.b;
+            }
+            if (plant.kind == CRESS) {
+                begin(4);
+                begin(1);
+                return plant.b == 0 ? faulted(ZERO) : plant.a / plant.b;
+            }
             begin(1);
             return plant.a;
-        }
-
-        private int tomatoSize(Thing plant) {
-            begin(2);
-            return 2 * plainSize(plant) + plant.b;
-        }
-
-        private int cressSize(Thing plant) {
-            begin(4);
-            int plain = plainSize(plant);
-            return plant.b == 0 ? faulted(ZERO) : plain / plant.b;
-        }
-
-        private int graftSize(Thing plant, int level) {
-            begin(3);
-            if (level > MOST_DEPTH) {
-                return 0;
-            }
-            int first = sizeOf(placeOf(plant, 0), level + 1);
-            if (fault != 0) {
-                return 0;
-            }
-            int second = sizeOf(placeOf(plant, 1), level + 1);
-            if (fault != 0) {
-                return 0;
-            }
-            return first + second + tomatoSize(plant);
         }
 
         private int thirstOf(Thing plant) {
@@ -1516,28 +1498,20 @@ public final class GlassHouse {
                 begin(12);
                 return plant.b;
             }
-            if (plant.kind == CRESS) {
-                return lentThirst(plant);
+            boolean twice = plant.kind != CRESS;
+            if (twice) {
+                begin(11);
             }
-            begin(11);
-            return 2 * lentThirst(plant);
-        }
-
-        private int lentThirst(Thing plant) {
             begin(10);
-            return 3 + sizeOf(plant, 0);
+            int lent = 3 + sizeOf(plant, 0);
+            return twice ? 2 * lent : lent;
         }
 
-        private int costOf(Thing plant) {
-            if (plant.kind != CRESS) {
-                return lentCost(plant);
+        /** What body 20 gives; that of a CRESS has its thirst to come. */
+        private int costAlone(Thing plant) {
+            if (plant.kind == CRESS) {
+                begin(21);
             }
-            begin(21);
-            int cost = lentCost(plant);
-            return fault != 0 ? 0 : cost + thirstOf(plant);
-        }
-
-        private int lentCost(Thing plant) {
             begin(20);
             return plant.a == 0 ? faulted(ZERO) : 5000 / plant.a;
         }
@@ -1758,6 +1732,8 @@ public final class GlassHouse {
         private final Frame[] frames = new Frame[MOST_FRAMES];
         private final int[] out = new int[PARTS];
         private int depth;
+        /** The place of the step that began latest, in the plan of its frame. */
+        private int at;
         private int dos;
         private int steps;
         private int catches;
@@ -1779,7 +1755,14 @@ public final class GlassHouse {
             }
             enterPlan(WHOLE, plan);
             for (int turn = 0; turn < 1000000 && depth > 0; turn++) {
-                oneTurn();
+                Frame frame = top();
+                if (frame == null) {
+                    depth = 0;
+                } else if (out[WAY] != ON || frame.next >= frame.end) {
+                    leave(frame);
+                } else if (stepBegins(frame)) {
+                    perform(frame.plan, plans.opAt(frame.plan, at), plans.aAt(frame.plan, at));
+                }
             }
             if (out[WAY] == SPENT) {
                 return -30;
@@ -1819,8 +1802,7 @@ public final class GlassHouse {
         }
 
         private Frame top() {
-            int at = depth - 1;
-            return at >= 0 && at < MOST_FRAMES ? frames[at] : null;
+            return depth > 0 && depth <= MOST_FRAMES ? frames[depth - 1] : null;
         }
 
         private Frame newTop() {
@@ -1867,17 +1849,6 @@ public final class GlassHouse {
             made.c = plans.cAt(plan, place);
         }
 
-        private void oneTurn() {
-            Frame frame = top();
-            if (frame == null) {
-                depth = 0;
-            } else if (out[WAY] != ON || frame.next >= frame.end) {
-                leave(frame);
-            } else {
-                beginStep(frame);
-            }
-        }
-
         // ---- steps
 
         private boolean counted() {
@@ -1889,32 +1860,21 @@ public final class GlassHouse {
             return true;
         }
 
-        private void arise(int kind, int number, int place) {
+        private void arise(int kind, int number) {
             arisen++;
             out[WAY] = FAULT;
             out[KIND] = kind;
             out[NUMBER] = number;
-            out[PLACE] = place;
+            out[PLACE] = at;
             out[CAUSE] = 0;
         }
 
-        private void beginStep(Frame frame) {
-            int place = frame.next;
-            int op = plans.opAt(frame.plan, place);
-            boolean withBody = op >= Plans.HOLD;
-            frame.next = withBody ? plans.endAt(frame.plan, place) + 1 : place + 1;
+        private boolean stepBegins(Frame frame) {
+            at = frame.next;
+            int op = plans.opAt(frame.plan, at);
+            frame.next = op >= Plans.HOLD ? plans.endAt(frame.plan, at) + 1 : at + 1;
             // A CATCH or a LAST that is come to on the way belongs to a TRY that is over.
-            if (op == Plans.CATCH || op == Plans.LAST || op == Plans.END || !counted()) {
-                return;
-            }
-            int a = plans.aAt(frame.plan, place);
-            if (!firstNumberFits(op, a)) {
-                arise(INDEX, 0, place);
-            } else if (withBody) {
-                beginBody(frame.plan, place, op, a);
-            } else {
-                plainStep(frame.plan, place, op, a);
-            }
+            return op != Plans.CATCH && op != Plans.LAST && op != Plans.END && counted();
         }
 
         private static boolean firstNumberFits(int op, int a) {
@@ -1941,30 +1901,34 @@ public final class GlassHouse {
             }
         }
 
-        private void plainStep(int plan, int place, int op, int a) {
-            int b = plans.bAt(plan, place);
-            int c = plans.cAt(plan, place);
+        private void perform(int plan, int op, int a) {
+            if (!firstNumberFits(op, a)) {
+                arise(INDEX, 0);
+                return;
+            }
+            int b = plans.bAt(plan, at);
+            int c = plans.cAt(plan, at);
             switch (op) {
                 case Plans.ADD:
                     stores.changeStock(a, stores.amounts[a] + b);
                     break;
                 case Plans.OVER:
-                    divideStock(a, b, place);
+                    divideStock(a, b);
                     break;
                 case Plans.LAY:
-                    layCell(a, b, c, place);
+                    layCell(a, b, c);
                     break;
                 case Plans.READ:
-                    readCell(a, b, c, place);
+                    readCell(a, b, c);
                     break;
                 case Plans.WRITE:
-                    writeCard(a, b, place);
+                    writeCard(a, b);
                     break;
                 case Plans.ASK:
-                    askPlant(a, b, c, place);
+                    askPlant(a, b, c);
                     break;
                 case Plans.FAIL:
-                    arise(OWN, a, place);
+                    arise(OWN, a);
                     break;
                 case Plans.ANSWER:
                     out[WAY] = ANSWERED;
@@ -1972,105 +1936,92 @@ public final class GlassHouse {
                     break;
                 case Plans.WAKE:
                     if (stores.valveHolds[a] == 0) {
-                        arise(STATE, 0, place);
+                        arise(STATE, 0);
                     }
                     break;
+                case Plans.DO:
+                    doPlan(a);
+                    break;
                 default:
-                    doPlan(a, place);
+                    beginBody(plan, op, a, b);
                     break;
             }
         }
 
-        private void divideStock(int a, int b, int place) {
+        private void divideStock(int a, int b) {
             if (b == 0) {
-                arise(ZERO, 0, place);
+                arise(ZERO, 0);
             } else {
                 stores.changeStock(a, stores.amounts[a] / b);
             }
         }
 
-        private void layCell(int bin, int i, int v, int place) {
+        private void layCell(int bin, int i, int v) {
             int wrong = cellFault(bins[bin], INTS, i);
             if (wrong != 0) {
-                arise(wrong, 0, place);
+                arise(wrong, 0);
             } else {
                 stores.changeCell(bins[bin], i, v);
             }
         }
 
-        private void readCell(int bin, int i, int k, int place) {
+        private void readCell(int bin, int i, int k) {
             Thing held = bins[bin];
             int wrong = isStock(k) ? cellFault(held, INTS, i) : INDEX;
             if (wrong != 0 || held == null) {
-                arise(wrong, 0, place);
+                arise(wrong, 0);
             } else {
                 stores.changeStock(k, held.cells[i]);
             }
         }
 
-        private void writeCard(int bin, int v, int place) {
+        private void writeCard(int bin, int v) {
             int wrong = takenFault(bins[bin], CARD);
             if (wrong != 0) {
-                arise(wrong, 0, place);
+                arise(wrong, 0);
             } else {
                 stores.changeCell(bins[bin], INTS, v);
             }
         }
 
-        private void askPlant(int bin, int what, int k, int place) {
+        private void askPlant(int bin, int what, int k) {
             if (what < 0 || what > 3 || !isStock(k)) {
-                arise(INDEX, 0, place);
+                arise(INDEX, 0);
                 return;
             }
             asker.beginAsk();
             int told = asker.tell(bins[bin], what);
             if (asker.fault != 0) {
-                arise(asker.fault, 0, place);
+                arise(asker.fault, 0);
             } else {
                 stores.changeStock(k, told);
             }
         }
 
-        private void doPlan(int plan, int place) {
+        private void doPlan(int plan) {
             if (plans.firstWrong(plan) != NONE) {
-                arise(OWN, 98, place);
+                arise(OWN, 98);
             } else if (dos >= MOST_DOS) {
-                arise(OWN, 99, place);
+                arise(OWN, 99);
             } else {
                 dos++;
                 enterPlan(Plans.DO, plan);
             }
         }
 
-        private void beginBody(int plan, int place, int op, int a) {
-            int b = plans.bAt(plan, place);
-            switch (op) {
-                case Plans.TAKE:
-                    if (b < 0 || stores.amounts[a] < b) {
-                        arise(OWN, 97, place);
-                        return;
-                    }
-                    break;
-                case Plans.AGAIN:
-                    if (a < 1 || a > 9) {
-                        arise(OWN, 96, place);
-                        return;
-                    }
-                    break;
-                case Plans.IF:
-                case Plans.LOOP:
-                    if (stores.amounts[a] <= 0) {
-                        return;
-                    }
-                    break;
-                default:
-                    break;
+        private void beginBody(int plan, int op, int a, int b) {
+            if (op == Plans.TAKE && (b < 0 || stores.amounts[a] < b)) {
+                arise(OWN, 97);
+                return;
             }
-            enterBody(op, plan, place);
-            takeForBody(op, a, b);
-        }
-
-        private void takeForBody(int op, int a, int b) {
+            if (op == Plans.AGAIN && (a < 1 || a > 9)) {
+                arise(OWN, 96);
+                return;
+            }
+            if ((op == Plans.IF || op == Plans.LOOP) && stores.amounts[a] <= 0) {
+                return;
+            }
+            enterBody(op, plan, at);
             if (op == Plans.HOLD) {
                 stores.valveHolds[a]++;
                 heldMost = Math.max(heldMost, stores.heldInAll());
