@@ -10,6 +10,7 @@ public final class ActsTest {
         again();
         trying();
         lasts();
+        catchAndLast();
         spent();
         deep();
         Script.end();
@@ -269,6 +270,7 @@ public final class ActsTest {
             drop(0) = 1
             step(0, 6, 3, 2, 0) = 0
             run(0) = -16
+            ran(7) = 0
             trace(0) = 20
             drop(0) = 1
             step(0, 6, 4, 0, 0) = 0
@@ -674,6 +676,70 @@ public final class ActsTest {
             run(0) = -16
             ran(3) = 0
             stock(5) = 1
+            """);
+    }
+
+    private static void catchAndLast() {
+        Script.run("promise 35, LAST behind CATCHES", """
+            step(0, 16, 0, 0, 0) = 0
+            step(0, 19, 0, 0, 0) = 1
+            step(0, 9, 0, 0, 0) = 2
+            step(0, 0, 0, 0, 0) = 3
+            step(0, 0, 0, 0, 0) = 4
+            step(0, 17, 6, 0, 0) = 5
+            step(0, 0, 0, 0, 0) = 6
+            step(0, 17, 7, 0, 0) = 7
+            step(0, 1, 1, 1, 0) = 8
+            step(0, 19, 2, 0, 0) = 9
+            step(0, 8, 4, 0, 0) = 10
+            step(0, 0, 0, 0, 0) = 11
+            step(0, 0, 0, 0, 0) = 12
+            step(0, 18, 0, 0, 0) = 13
+            step(0, 1, 3, 1, 0) = 14
+            step(0, 0, 0, 0, 0) = 15
+            step(0, 1, 4, 1, 0) = 16
+            run(0) = 0
+            ran(4) = 0
+            ran(5) = 1
+            stock(1) = 0
+            stock(3) = 1
+            stock(4) = 1
+            setStock(0, 1) = 1
+            run(0) = 0
+            ran(4) = 1
+            ran(5) = 1
+            stock(1) = 1
+            stock(3) = 2
+            stock(4) = 2
+            # an ANSWER out of the CATCH's body
+            setStock(2, 1) = 1
+            run(0) = 1
+            ran(0) = 4
+            stock(3) = 3
+            stock(4) = 2
+            """);
+        Script.run("promise 36, what went out of a LAST in a LAST", """
+            # the FAULT of the inner CATCH has a cause of its own, till it goes in place of another
+            step(0, 16, 0, 0, 0) = 0
+            step(0, 19, 0, 0, 0) = 1
+            step(0, 7, 1, 0, 0) = 2
+            step(0, 0, 0, 0, 0) = 3
+            step(0, 0, 0, 0, 0) = 4
+            step(0, 18, 0, 0, 0) = 5
+            step(0, 16, 0, 0, 0) = 6
+            step(0, 9, 0, 0, 0) = 7
+            step(0, 0, 0, 0, 0) = 8
+            step(0, 17, 7, 0, 0) = 9
+            step(0, 2, 0, 0, 0) = 10
+            step(0, 0, 0, 0, 0) = 11
+            step(0, 0, 0, 0, 0) = 12
+            run(0) = -16
+            ran(3) = 7
+            ran(2) = 10
+            setStock(0, 1) = 1
+            run(0) = -16
+            ran(3) = 8
+            ran(8) = 3
             """);
     }
 

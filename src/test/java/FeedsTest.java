@@ -114,6 +114,7 @@ public final class FeedsTest {
             compare(7, 0, 0, 1, 0) = 44
             compare(7, 1, 0, 0, 0) = 35
             compare(7, 0, 1, 1, 0) = 26
+            compare(7, 1, 0, 0, 1) = 26
             compare(7, 0, 2, 0, 2) = 32
             compare(7, 0, 2, 0, 0) = 32
             compare(7, 0, 0, 0, 2) = 32
