@@ -1263,7 +1263,7 @@ public final class GlassHouse {
         double outcome = real;
         double factor = power < 0 ? 0.5 : 2.0;
         int left = power < 0 ? -power : power;
-        for (int k = 0; k < 11; k++) {
+        for (int k = 0; k < 11 && left > 0; k++) {
             if ((left & 1) == 1) {
                 outcome = outcome * factor;
             }
@@ -2374,7 +2374,7 @@ public final class GlassHouse {
             boolean anyChanged = countSame(house);
             values[house] = middleOf(house);
             boolean judged = isNumber(values[house]) && manyReading(house) >= 3;
-            double middle = judged ? realOf(values[house]) : 0.0;
+            double middle = valueReal(house);
             for (int p = house; p < PROBES; p += MANY) {
                 countOff(p, judged && isNumber(readings[p]), values[house], middle);
                 judge(p, anyChanged);
@@ -2417,6 +2417,16 @@ public final class GlassHouse {
             }
             sortByOrder(ordered, many);
             return ordered[(many - 1) / 2];
+        }
+
+        /** The value of a house is the reading of one of its probes, whose real is worked already. */
+        private double valueReal(int house) {
+            for (int p = house; p < PROBES; p += MANY) {
+                if (readings[p] == values[house]) {
+                    return reals[p];
+                }
+            }
+            return 0.0;
         }
 
         private void countOff(int p, boolean judged, long value, double middle) {
@@ -2481,7 +2491,7 @@ public final class GlassHouse {
 
         private long wantedMove(int house) {
             long[] air = airs[house];
-            long v = bounded((long) (realOf(values[house]) * 1000.0), -1000000000L, 1000000000L);
+            long v = bounded((long) (valueReal(house) * 1000.0), -1000000000L, 1000000000L);
             long d = bounded(v - wishAt(house, minuteNow % DAY), -100000, 100000);
             air[REST] = bounded(air[REST] + d / 16, -4000, 4000);
             return bounded(d / 400 + air[REST] / 500, -10, 10);
