@@ -258,6 +258,7 @@ public final class ActsTest {
             drop(0) = 1
             step(0, 6, 0, 4, 0) = 0
             run(0) = -12
+            ran(7) = 0
             drop(0) = 1
             step(0, 6, 0, 0, 6) = 0
             run(0) = -12

@@ -162,6 +162,12 @@ public final class BooksTest {
             told(8) = 2
             open1() = 2
             told(4) = 5
+            # one byte is enough to begin a page
+            power(1) = 1
+            write(0) = NO
+            told(4) = 6
+            open1() = 2
+            told(4) = 5
             # power set anew
             power(0) = 1
             power(200) = 1
@@ -281,6 +287,13 @@ public final class BooksTest {
             row(0, 4, 1) = 1
             write(0) = FULL
             damage(19, 63, 240) = 0
+            open1() = 0
+            told(4) = 0
+            # one byte at either end of a page is enough
+            damage(5, 0, 1) = 1
+            open1() = 0
+            told(4) = 6
+            damage(5, 0, 1) = 0
             open1() = 0
             told(4) = 0
             damage(20, 0, 1) = BAD

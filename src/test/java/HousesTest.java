@@ -6,9 +6,11 @@ public final class HousesTest {
         readings();
         votes();
         offAndNear();
+        partAtFirst();
         stuck();
         weatherAndMarks();
         vents();
+        smallMoves();
         air();
         Script.end();
     }
@@ -262,6 +264,22 @@ public final class HousesTest {
             """);
     }
 
+    private static void partAtFirst() {
+        Script.run("promise 45, part is 2.0 at first", """
+            read(0, d20.0) = 1
+            read(3, d20.0) = 1
+            read(6, d22.0) = 1
+            read(1, d20.0) = 1
+            read(4, d20.0) = 1
+            read(7, d17.9375) = 1
+            minute(1) = 1
+            probe(6, 2) = 0
+            probe(6, 3) = 1
+            probe(7, 2) = 1
+            probe(7, 3) = 0
+            """);
+    }
+
     private static void stuck() {
         Script.run("promise 46, stuck", """
             read(0, d20.0) = 1
@@ -499,13 +517,48 @@ public final class HousesTest {
             weather(4, 0) = 1
             minute(1) = 8
             air(0, 3) = 30
-            # with storm, too, rain counts for nothing
+            # with storm rain counts for nothing
             weather(4, 1) = 0
             weather(3, 1) = 0
             minute(1) = 9
             air(0, 3) = 20
             minute(3) = 12
             air(0, 3) = 0
+            """);
+    }
+
+    private static void smallMoves() {
+        Script.run("promise 53, rain at 21", """
+            mark(0, 0, 10000) = 1
+            read(0, d10.4) = 1
+            minute(1) = 1
+            air(0, 3) = 1
+            read(0, d50.0) = 1
+            minute(1) = 2
+            air(0, 3) = 11
+            weather(4, 1) = 0
+            minute(1) = 3
+            air(0, 3) = 20
+            """);
+        Script.run("promise 53, REST alone moves", """
+            mark(0, 0, 10000) = 1
+            read(0, 0x7FF0000000000000) = 1
+            minute(1) = 1
+            air(0, 5) = 4000
+            air(0, 3) = 10
+            read(0, d10.0) = 1
+            minute(1) = 2
+            air(0, 3) = 18
+            air(0, 5) = 4000
+            """);
+        Script.run("promise 53, a value in thousandths is cut", """
+            mark(0, 0, 0) = 1
+            read(0, d15.9999) = 1
+            minute(1) = 1
+            air(0, 5) = 999
+            read(0, d-15.9999) = 1
+            minute(1) = 2
+            air(0, 5) = 0
             """);
     }
 
@@ -541,6 +594,26 @@ public final class HousesTest {
             air(0, 2) = 7537
             told(10) = 1
             laid(0) = 0
+            """);
+        Script.run("promise 53, dew at the very thousand", """
+            line(0, 19, 100) = 1
+            line(0, 20, 7000) = 2
+            weather(1, 20000) = 10000
+            weather(3, 1) = 0
+            minute(1) = 1
+            air(0, 0) = 20000
+            air(0, 1) = 7000
+            air(0, 2) = 1012
+            """);
+        Script.run("promise 53, warmth below 0 is cut, not taken downwards", """
+            line(0, -1, 5000) = 1
+            line(0, 0, 6000) = 2
+            weather(1, -40000) = 10000
+            weather(3, 1) = 0
+            # one part in a hundred of what it is above -40000, cut, is lost each minute
+            minute(41) = 41
+            air(0, 0) = -246
+            air(0, 1) = 6000
             """);
         Script.run("promise 53, dew down to nothing", """
             line(0, 0, -500) = 1

@@ -135,6 +135,16 @@ public final class LimitsTest {
             run(0) = FULL
             told(2) = 3000
             """);
+        // More calls than an object is promised for; the limit lies beyond them.
+        Script.run("promise 52, a hundred thousand minutes", """
+            999 * minute(100)
+            minute(99) = 99999
+            minute(2) = FULL
+            minute(101) = BAD
+            told(0) = 99999
+            minute(1) = 100000
+            minute(1) = FULL
+            """);
         Script.run("promise 75, fault", """
             fault() = 0
             get(0, 0, 0) = 0

@@ -4,6 +4,9 @@ public final class PestsTest {
         Script.run("promises 62, 63 and 66, count, parts, pest", """
             count(0, 0, 1000000000) = 1
             pest(0, 0) = 1000000000
+            count(0, 0, 0) = 1
+            pest(0, 0) = 0
+            count(0, 0, 1000000000) = 1
             pest(1, 0) = 0
             count(0, 0, 1000000001) = BAD
             count(0, 0, -1) = BAD
