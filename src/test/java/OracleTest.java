@@ -1691,6 +1691,10 @@ public final class OracleTest {
             }
         }
 
+        /** Ints that lie far from all that fits. */
+        static final int[] FAR = {Integer.MIN_VALUE, Integer.MIN_VALUE + 1, Integer.MAX_VALUE, Integer.MAX_VALUE - 1,
+            -65536, 65536, 1 << 30, -1 << 30};
+
         Object argument(char c) {
             switch (c) {
                 case 'B': return rarely() ? (random.nextBoolean() ? -1 : 16) : below(below(4) == 0 ? 16 : 6);
@@ -1769,6 +1773,7 @@ public final class OracleTest {
             Class<?>[] types = real.get(words[0]).getParameterTypes();
             for (int k = 0; k < args.length; k++) {
                 if (types[k] == int.class && args[k] instanceof Long) args[k] = ((Long) args[k]).intValue();
+                if (types[k] == int.class && below(80) == 0) args[k] = FAR[below(FAR.length)];
                 if (types[k] == long.class && args[k] instanceof Integer) args[k] = ((Integer) args[k]).longValue();
             }
             return call(words[0], args);
