@@ -1,6 +1,8 @@
 import java.lang.reflect.Method;
 import java.util.ArrayList;
+import java.util.HashMap;
 import java.util.List;
+import java.util.Map;
 
 /**
  * Runs of calls written as lines, each run on a new object:
@@ -12,10 +14,16 @@ import java.util.List;
  * </pre>
  */
 final class Script {
+    private static final Map<String, Call> KNOWN = new HashMap<>();
+
     private static int wrong;
     private static int calls;
 
     private Script() {
+    }
+
+    /** A call that was read from its line. */
+    private record Call(Method method, Object[] arguments) {
     }
 
     static void run(String title, String lines) {
@@ -68,7 +76,25 @@ final class Script {
         }
     }
 
-    private static long answer(GlassHouse house, String call) throws ReflectiveOperationException {
+    /** What an object answers to a call that is told as a line's is. */
+    static long ask(GlassHouse house, String call) {
+        try {
+            return answer(house, call);
+        } catch (ReflectiveOperationException e) {
+            throw new IllegalStateException(call, e);
+        }
+    }
+
+    private static long answer(GlassHouse house, String text) throws ReflectiveOperationException {
+        Call call = KNOWN.get(text);
+        if (call == null) {
+            call = callOf(text);
+            KNOWN.put(text, call);
+        }
+        return ((Number) call.method.invoke(house, call.arguments)).longValue();
+    }
+
+    private static Call callOf(String call) throws ReflectiveOperationException {
         int open = call.indexOf('(');
         String name = call.substring(0, open).strip();
         List<String> words = new ArrayList<>();
@@ -86,7 +112,7 @@ final class Script {
         for (int k = 0; k < types.length; k++) {
             arguments[k] = argument(types[k], words.get(k));
         }
-        return ((Number) method.invoke(house, arguments)).longValue();
+        return new Call(method, arguments);
     }
 
     private static Method named(String name) throws NoSuchMethodException {
