@@ -259,6 +259,18 @@ public final class FeedEdgesTest {
             real(7, 0, 1) = d0.0
             put(0, 7, 0, d-0.0) = 1
             real(7, 0, 1) = d-0.0
+            # two that lie side by side
+            put(0, 7, 0, 0x4000000000000001) = 1
+            put(0, 7, 2, 0x4000000000000000) = 1
+            put(0, 7, 1, dNaN) = 1
+            real(7, 0, 0) = 0x4000000000000000
+            real(7, 0, 1) = 0x4000000000000001
+            put(0, 7, 0, 0xC000000000000001) = 1
+            put(0, 7, 2, 0xC000000000000000) = 1
+            real(7, 0, 0) = 0xC000000000000001
+            real(7, 0, 1) = 0xC000000000000000
+            compare(7, 0, 0, 0, 2) = 35
+            put(0, 7, 1, d-0.0) = 1
             put(0, 7, 0, 0x7FF0000000000000) = 1
             put(0, 7, 2, 0xFFF0000000000000) = 1
             real(7, 0, 0) = 0xFFF0000000000000
@@ -662,6 +674,15 @@ public final class FeedEdgesTest {
             new int[] {999, 0, 0}, new int[] {0, 999, 999}, 0, 2, 1, 0, -1);
         feed("the greatest CONTENTS, NONE, by fractions", new int[] {98, 49, 97, 96, 48, 91, 94, 47, 83, 92, 46, 99},
             new int[] {999, 0, 0}, new int[] {0, 999, 999}, 0, 2, 1, -2, 0);
-
+        feed("a WITNESS by fractions, of a row that came down", new int[] {4, 16, 2, 2, 36, 8, 7, 42, 7, 9, 46, 7},
+            new int[] {15, 12, 4}, new int[] {0, 0, 0}, 0, 2, 2, -1, 4);
+        feed("a WITNESS by fractions, of a row that came down", new int[] {4, 16, 2, 7, 50, 9, 6, 48, 9, 6, 28, 4},
+            new int[] {0, 10, 9}, new int[] {0, 0, 0}, 0, 2, 2, -1, 4);
+        feed("rows that change places with fractions in them", new int[] {8, 4, 5, 12, 6, 8, 6, 3, 7, 8, 4, 1},
+            new int[] {8, 4, 15}, new int[] {0, 0, 0}, 2, 2, -29, 1, 20, 1, 0, 1, 0, 1);
+        feed("rows that change places with fractions in them", new int[] {14, 7, 1, 0, 0, 8, 18, 9, 3, 16, 8, 4},
+            new int[] {6, 3, 4}, new int[] {0, 0, 0}, 1, 2, 3, 7, 25, 56, 0, 1, 0, 1);
+        feed("rows that change places, by thirds and by halves", new int[] {6, 2, 3, 6, 2, 4, 1, 1, 1, 0, 0, 0},
+            new int[] {1, 2, 3}, new int[] {0, 0, 0}, 2, 3, -3, 2, 5, 4, 5, 2, 0, 1);
     }
 }
