@@ -14,7 +14,8 @@ public final class GlassHouse {
     private static final int BINS = 16, MOST_CELLS = 40, MOST_BAYS = 10, MOST_STOREYS = 4, MOST_TRAY = 8;
     private static final int MOST_FAULTS = 3000, MOST_THINGS = 4000, MOST_DEPTH = 4;
     private static final long FLOAT_NO_NUMBER = 0x7FC00000L, NO_NUMBER = 0x7FF8000000000000L;
-    private static final long FRACTION = 0xFFFFFFFFFFFFFL;
+    private static final long SIGN = 0x8000000000000000L, ALL_BUT_SIGN = 0x7FFFFFFFFFFFFFFFL,
+            ENDLESS = 0x7FF0000000000000L, FRACTION = 0xFFFFFFFFFFFFFL;
     private static final long[] NO_CELLS = {};
 
     private final Runner runner = new Runner();
@@ -1169,7 +1170,7 @@ public final class GlassHouse {
     }
 
     private static boolean isNumber(long bits) {
-        return (bits & Long.MAX_VALUE) <= 0x7FF0000000000000L;
+        return (bits & ALL_BUT_SIGN) <= ENDLESS;
     }
 
     /** The bits of the double that is the cell of a row of floats or doubles. */
@@ -1178,11 +1179,11 @@ public final class GlassHouse {
     }
 
     private static long widened(long bits) {
-        long sign = bits & Long.MIN_VALUE;
+        long sign = bits & SIGN;
         long exponent = (bits >> 23) & 255;
         long rest = bits & 0x7FFFFF;
         if (exponent == 255) {
-            return rest == 0 ? sign | 0x7FF0000000000000L : NO_NUMBER;
+            return rest == 0 ? sign | ENDLESS : NO_NUMBER;
         }
         if (exponent != 0) {
             return sign | ((exponent + 896) << 52) | (rest << 29);
@@ -1196,7 +1197,7 @@ public final class GlassHouse {
 
     /** Order of the numbers with -0.0 below 0.0; the same function leads back to the bits. */
     private static long orderKey(long bits) {
-        return bits ^ ((bits >> 63) & Long.MAX_VALUE);
+        return bits ^ ((bits >> 63) & ALL_BUT_SIGN);
     }
 
     private static void sortByOrder(long[] bits, int many) {
@@ -1217,8 +1218,8 @@ public final class GlassHouse {
             return 32;
         }
         // The machine holds -0.0 and 0.0 alike.
-        long one = first == Long.MIN_VALUE ? 0 : orderKey(first);
-        long two = second == Long.MIN_VALUE ? 0 : orderKey(second);
+        long one = first == SIGN ? 0 : orderKey(first);
+        long two = second == SIGN ? 0 : orderKey(second);
         if (one == two) {
             return 2 + 8 + 16;
         }
@@ -1249,7 +1250,7 @@ public final class GlassHouse {
         if (many < 1) {
             return NO_NUMBER;
         }
-        return sum < 0 ? Long.MIN_VALUE | bitsOf(-sum / many) : bitsOf(sum / many);
+        return sum < 0 ? SIGN | bitsOf(-sum / many) : bitsOf(sum / many);
     }
 
     // ---- reals by their bits, without the library
@@ -1294,7 +1295,7 @@ public final class GlassHouse {
             return 0;
         }
         if (isEndless(real)) {
-            return 0x7FF0000000000000L;
+            return ENDLESS;
         }
         double size = real;
         int power = 0;
@@ -2786,6 +2787,7 @@ public final class GlassHouse {
     private static final class Books {
         static final int PAGES = 20, LENGTH = 64;
         private static final int MOST_CELLS_WRITTEN = 6, AT_LANE = 4, AT_MANY = 5, AT_CELLS = 12, AT_SUM = 60;
+        private static final int MOST_NUMBER = 2147483647;
 
         final int[] bytes = new int[PAGES * LENGTH];
         private final int[] draft = new int[LENGTH];
@@ -2816,7 +2818,7 @@ public final class GlassHouse {
             if (dark) {
                 return NO;
             }
-            if (cells.length > MOST_CELLS_WRITTEN || next >= PAGES || latest == Integer.MAX_VALUE) {
+            if (cells.length > MOST_CELLS_WRITTEN || next >= PAGES || latest == MOST_NUMBER) {
                 return FULL;
             }
             fillDraft(latest + 1, lane, cells);
