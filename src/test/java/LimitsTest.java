@@ -27,6 +27,45 @@ public final class LimitsTest {
         get(0, 4, 0) = 3
         write(0) = 1
         work() = 1
+        # others go on
+        put(0, 4, 0, 4) = 1
+        put(0, 4, 0, 3) = 1
+        bed(2, 9, 0, 0) = 3
+        setBed(2, 9, 0, 0, 3) = 1
+        liftAs(6, 2, 0, 4) = 1
+        shift(0, 0, 3, 0, 1) = 1
+        came() = 1
+        alike(0, 3) = 1
+        size(2, 0) = 1
+        is(4, 12) = 1
+        ask(4, 0) = 1
+        answer() = 1
+        drop(1) = 1
+        step(1, 1, 0, 1, 0) = 0
+        formed(1) = NONE
+        run(1) = FULL
+        setStock(1, 5) = 1
+        line(0, 0, 0) = 1
+        value(0, 0) = 0
+        rest(1, 0) = 1
+        read(0, d1.0) = 1
+        part(d1.0) = 1
+        mark(0, 0, 0) = 1
+        weather(0, 1) = 0
+        minute(1) = 1
+        quotient(5, 7, 2, 0) = 3
+        wholeMean(0) = 1
+        salt(0, 0, 1) = 0
+        work() = 1
+        count(0, 0, 4) = 1
+        parts(0, 0, 0, 1000, 0) = 1
+        day(1) = 1
+        spray(0) = 1
+        damage(0, 0, 0) = 0
+        power(0) = 1
+        write(0) = NO
+        open1() = 1
+        share(6, NONE) = 1
         """;
 
     private static final String READY = """
