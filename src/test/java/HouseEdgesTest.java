@@ -1291,6 +1291,27 @@ public final class HouseEdgesTest {
             air(0, 6) = 138
             air(0, 8) = 81
             """);
+        Script.run("IN is by the PIPE, LOST by the VENT, as they became in that minute", """
+            minute(2) = 2
+            air(0, 3) = 10
+            air(0, 4) = 20
+            # 50 and 100; 10000 times 12 by 200, 9450 times 12 by 200
+            air(0, 6) = 150
+            air(0, 7) = 1167
+            air(0, 0) = 18983
+            mark(0, 0, 10000) = 1
+            read(0, d50.0) = 1
+            minute(1) = 3
+            # MOVE 10: the PIPE 10, the VENT 10 still
+            air(0, 3) = 10
+            air(0, 4) = 10
+            air(0, 6) = 200
+            # the PIPE is used up first, then the VENT opens
+            minute(2) = 5
+            air(0, 3) = 20
+            air(0, 4) = 0
+            air(0, 6) = 200
+            """);
         Script.run("LOST: times (2 + VENT), by 200, cut, above and below 0", """
             weather(3, 1) = 0
             weather(1, 19901) = 10000

@@ -15,9 +15,11 @@ public final class RowEdgesTest {
         places();
         shiftsOfCells();
         shiftsOfPlaces();
+        shiftsOfOthers();
         copies();
         alikes();
         plants();
+        asks();
         bodies();
         traces();
         cards();
@@ -843,6 +845,34 @@ public final class RowEdgesTest {
             """);
     }
 
+    private static void shiftsOfOthers() {
+        Script.run("shift: STORE: either is no ROW and no PLACES", """
+            grid(0, 9, 2, 1, true) = 1
+            tray(1, 12, 2) = 1
+            row(2, 4, 2) = 1
+            card(3) = 0
+            plant(4, 2, 0, 0, 15, 15) = 0
+            shift(0, 0, 3, 0, 1) = -15
+            shift(3, 0, 0, 0, 1) = -15
+            shift(1, 0, 4, 0, 1) = -15
+            shift(4, 0, 1, 0, 1) = -15
+            shift(3, 0, 3, 1, 1) = -15
+            shift(4, 0, 4, 1, 1) = -15
+            shift(3, 0, 4, 0, 0) = -15
+            shift(2, 0, 3, 0, 1) = -15
+            shift(3, 0, 2, 0, 1) = -15
+            shift(2, 0, 4, 0, 0) = -15
+            shift(4, 0, 2, 0, 0) = -15
+            came() = 0
+            told(2) = 11
+            fault() = 5
+            # NULL ahead of it
+            shift(3, 0, 15, 0, 1) = -11
+            shift(15, 0, 3, 0, 1) = -11
+            shift(15, 0, 15, 0, 0) = -11
+            """);
+    }
+
     private static void copies() {
         Script.run("copy: also NOTHING", """
             row(0, 4, 1) = 1
@@ -1105,6 +1135,45 @@ public final class RowEdgesTest {
             answer() = 41
             ask(0, 6) = 1
             answer() = 0
+            """);
+    }
+
+    private static void asks() {
+        Script.run("ask: 5 NUMBER (0, 1, .. as they come), 6 KIND, 7 DEPTH", """
+            plant(0, 5, 9, 9, 0, 0) = 0
+            plant(1, 4, 9, 9, 0, 0) = 1
+            plant(2, 3, 9, 9, 0, 0) = 2
+            plant(3, 1, 9, 9, 0, 0) = 3
+            plant(4, 0, 9, 9, 0, 0) = 4
+            plant(5, 2, 9, 9, 0, 1) = 5
+            ask(0, 5) = 1
+            answer() = 0
+            ask(0, 6) = 1
+            answer() = 5
+            ask(1, 5) = 1
+            answer() = 1
+            ask(1, 6) = 1
+            answer() = 4
+            ask(2, 6) = 1
+            answer() = 3
+            ask(3, 6) = 1
+            answer() = 1
+            ask(4, 5) = 1
+            answer() = 4
+            ask(4, 6) = 1
+            answer() = 0
+            ask(5, 5) = 1
+            answer() = 5
+            ask(5, 6) = 1
+            answer() = 2
+            ask(5, 7) = 1
+            answer() = 1
+            ask(4, 7) = 1
+            answer() = 0
+            # one PLANT in two BINS has one NUMBER
+            share(6, 4) = 1
+            ask(6, 5) = 1
+            answer() = 4
             """);
     }
 
