@@ -1290,6 +1290,73 @@ public final class ActEdgesTest {
     }
 
     private static void spentGivesBack() {
+        Script.run("What is given back goes back on every way out: behind an ANSWER", """
+            setStock(0, 10) = 1
+            step(0, 12, 0, 4, 0) = 0
+            step(0, 11, 1, 0, 0) = 1
+            step(0, 11, 1, 0, 0) = 2
+            step(0, 13, 2, 8, 9) = 3
+            step(0, 1, 1, 1, 0) = 4
+            step(0, 8, 6, 0, 0) = 5
+            step(0, 1, 1, 1, 0) = 6
+            step(0, 0, 0, 0, 0) = 7
+            step(0, 0, 0, 0, 0) = 8
+            step(0, 0, 0, 0, 0) = 9
+            step(0, 0, 0, 0, 0) = 10
+            step(0, 1, 1, 1, 0) = 11
+            run(0) = 1
+            ran(0) = 6
+            ran(1) = 6
+            ran(6) = 2
+            stock(0) = 10
+            stock(1) = 1
+            valve(1, 1) = 0
+            valve(2, 0) = 9
+            # again: what was HELD is held no more
+            step(1, 9, 1, 0, 0) = 0
+            run(1) = -17
+            run(0) = 1
+            ran(6) = 2
+            """);
+        Script.run("What is given back goes back on every way out: behind its BODY, behind a FAULT, also one that is met", """
+            setStock(0, 10) = 1
+            step(0, 12, 0, 4, 0) = 0
+            step(0, 11, 1, 0, 0) = 1
+            step(0, 13, 2, 8, 9) = 2
+            step(0, 1, 1, 1, 0) = 3
+            step(0, 0, 0, 0, 0) = 4
+            step(0, 0, 0, 0, 0) = 5
+            step(0, 0, 0, 0, 0) = 6
+            run(0) = 0
+            stock(0) = 10
+            stock(1) = 1
+            valve(1, 1) = 0
+            valve(2, 0) = 9
+            step(1, 16, 0, 0, 0) = 0
+            step(1, 12, 0, 4, 0) = 1
+            step(1, 11, 1, 0, 0) = 2
+            step(1, 13, 2, 5, 6) = 3
+            step(1, 1, 1, 1, 0) = 4
+            step(1, 7, 1, 0, 0) = 5
+            step(1, 0, 0, 0, 0) = 6
+            step(1, 0, 0, 0, 0) = 7
+            step(1, 0, 0, 0, 0) = 8
+            step(1, 0, 0, 0, 0) = 9
+            step(1, 17, 8, 0, 0) = 10
+            step(1, 16, 0, 0, 0) = 11
+            step(1, 9, 1, 0, 0) = 12
+            step(1, 0, 0, 0, 0) = 13
+            step(1, 17, 7, 0, 0) = 14
+            step(1, 1, 2, 1, 0) = 15
+            step(1, 0, 0, 0, 0) = 16
+            step(1, 0, 0, 0, 0) = 17
+            run(1) = 0
+            stock(0) = 10
+            stock(1) = 2
+            stock(2) = 1
+            valve(1, 1) = 0
+            valve(2, 0) = 6
+            """);
         Script.run("nothing more is done but what is given back, and CELLS, CARDS, STOCK stay as they are", """
             row(0, 4, 1) = 1
             card(1) = 0
@@ -1335,6 +1402,32 @@ public final class ActEdgesTest {
             stock(2) = 0
             stock(3) = 0
             told(2) = 0
+            """);
+        Script.run("SPENT has no CAUSE, nor a number: a FAULT with both waits for a time of AGAIN that is the 301st", """
+            setStock(0, 147) = 1
+            step(0, 20, 0, 0, 0) = 0
+            step(0, 1, 0, -1, 0) = 1
+            step(0, 0, 0, 0, 0) = 2
+            step(0, 15, 9, 0, 0) = 3
+            step(0, 16, 0, 0, 0) = 4
+            step(0, 9, 0, 0, 0) = 5
+            step(0, 0, 0, 0, 0) = 6
+            step(0, 17, 7, 0, 0) = 7
+            step(0, 7, 44, 0, 0) = 8
+            step(0, 0, 0, 0, 0) = 9
+            step(0, 0, 0, 0, 0) = 10
+            # DO, 295 for the LOOP, AGAIN, TRY, WAKE, FAIL
+            step(1, 10, 0, 0, 0) = 0
+            run(1) = -30
+            ran(0) = 0
+            ran(1) = 300
+            ran(2) = NONE
+            ran(3) = 0
+            ran(4) = 1
+            ran(7) = 0
+            ran(8) = 2
+            fault() = 0
+            told(2) = 2
             """);
         Script.run("SPENT within a CATCH and within a LAST: the LAST is not done, what waited does not go on", """
             setStock(0, 1) = 1

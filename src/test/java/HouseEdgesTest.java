@@ -1373,8 +1373,26 @@ public final class HouseEdgesTest {
             minute(1) = 51
             air(0, 1) = 9000
             air(0, 2) = 20
+            # DEW ever
+            minute(3) = 54
+            air(0, 2) = 80
+            air(2, 2) = 80
             told(10) = 0
             laid(0) = NONE
+            """);
+        Script.run("9000, without using it, if TABLE 0 has no LINES, also when others have some and are LAID", """
+            line(1, 0, 5) = 1
+            line(2, 0, 6) = 1
+            value(1, 0) = 5
+            rest(0, 1) = 1
+            weather(3, 1) = 0
+            weather(0, 400) = 0
+            minute(51) = 51
+            air(0, 1) = 9000
+            air(0, 2) = 20
+            told(10) = 1
+            laid(1) = NONE
+            rest(0, 2) = 1
             """);
         Script.run("TABLE 0's value (0 at least), with its OFFSET", """
             rest(0, 1) = 1
@@ -1452,6 +1470,14 @@ public final class HouseEdgesTest {
             minute(1) = 12
             air(0, 1) = 12
             air(0, 10) = 1
+            # of all minutes: 52 again, and one lacks again
+            weather(2, 40000) = 0
+            minute(1) = 13
+            air(0, 1) = 52
+            weather(2, 0) = 40000
+            minute(1) = 14
+            air(0, 1) = 0
+            air(0, 10) = 2
             """);
         Script.run("VAPOUR is 0 at least: none lacks", "line(0, 0, 48) = 1\n" + ready + """
             # 48 and 12, less 60

@@ -20,18 +20,46 @@ public final class LimitsTest {
         run(4) = BAD
         shares(0, 5, 5) = FULL
         shares(3, 5, 5) = NO
+        # BAD comes ahead of FULL
+        row(16, 4, 1) = BAD
+        row(5, 8, 1) = BAD
+        grid(16, 9, 1, 1, true) = BAD
+        grid(5, 11, 1, 1, true) = BAD
+        grid(5, 9, 11, 1, true) = BAD
+        grid(5, 9, 1, 41, false) = BAD
+        storeys(16, 1) = BAD
+        storeys(5, 5) = BAD
+        tray(5, 11, 1) = BAD
+        tray(5, 12, 9) = BAD
+        plant(16, 0, 0, 0, 0, 0) = BAD
+        plant(5, 2, 0, 0, 16, 0) = BAD
+        card(16) = BAD
+        copy(5, 16, false) = BAD
+        copy(-1, 5, false) = BAD
+        shares(0, -1, 5) = BAD
+        shares(0, 5, 16) = BAD
+        # the FAULT behind it
+        grid(5, 9, -1, 1, true) = FULL
+        storeys(5, -1) = FULL
+        tray(5, 12, -1) = FULL
+        plant(5, 2, 0, 0, 0, 0) = FULL
+        # CAST, NULL ahead of NO, FULL
+        shares(4, 5, 5) = -14
+        shares(15, 5, 5) = -11
         form(5) = NONE
+        # others go on
         share(6, 0) = 1
+        form(6) = 4
         set(2, 0, 0) = 1
         lift(6, 2, 0) = 1
         get(0, 4, 0) = 3
         write(0) = 1
         work() = 1
-        # others go on
         put(0, 4, 0, 4) = 1
         put(0, 4, 0, 3) = 1
         bed(2, 9, 0, 0) = 3
-        setBed(2, 9, 0, 0, 3) = 1
+        setBed(2, 9, 0, 0, 2) = 1
+        countUp(13, 0, 0, 0, false) = 2
         liftAs(6, 2, 0, 4) = 1
         shift(0, 0, 3, 0, 1) = 1
         came() = 1
@@ -40,31 +68,53 @@ public final class LimitsTest {
         is(4, 12) = 1
         ask(4, 0) = 1
         answer() = 1
+        trace(0) = 1
+        field(14, 4) = 0
+        setField(14, 4, 9) = 1
+        lead(14, 0, 14) = 1
+        follow(6, 14, 0) = 1
+        led(14, 0) = 1
         drop(1) = 1
         step(1, 1, 0, 1, 0) = 0
         formed(1) = NONE
         run(1) = FULL
+        ran(0) = 0
         setStock(1, 5) = 1
+        stock(1) = 5
+        valve(0, 0) = 0
         line(0, 0, 0) = 1
         value(0, 0) = 0
+        laid(0) = 0
         rest(1, 0) = 1
         read(0, d1.0) = 1
         part(d1.0) = 1
-        mark(0, 0, 0) = 1
+        mark(0, 0, 7) = 1
+        wish(0, 9) = 7
         weather(0, 1) = 0
         minute(1) = 1
+        probe(0, 0) = 1
+        voted(0) = d1.0
+        air(0, 8) = 12
+        unmark(0) = 1
         quotient(5, 7, 2, 0) = 3
+        compare(7, 12, 0, 12, 0) = 26
+        real(7, 12, 1) = 0
         wholeMean(0) = 1
         salt(0, 0, 1) = 0
         work() = 1
+        worked(3, 0) = 1
         count(0, 0, 4) = 1
         parts(0, 0, 0, 1000, 0) = 1
         day(1) = 1
+        pest(0, 0) = 2
         spray(0) = 1
+        wait1() = 7
+        octet(0, 3) = 1
         damage(0, 0, 0) = 0
         power(0) = 1
         write(0) = NO
         open1() = 1
+        page(0, 1) = 1
         share(6, NONE) = 1
         """;
 
@@ -74,34 +124,37 @@ public final class LimitsTest {
         grid(2, 9, 1, 1, true) = 1
         row(3, 4, 1) = 1
         plant(4, 0, 1, 1, 0, 0) = 0
+        row(12, 7, 1) = 1
+        storeys(13, 1) = 1
+        set(13, 0, 2) = 1
+        card(14) = 0
         step(1, 0, 0, 0, 0) = 0
         """;
 
     public static void main(String[] args) {
         Script.run("four thousand things", READY + """
-            told(1) = 4
+            told(1) = 7
             storeys(7, 4) = 1
             grid(8, 9, 10, 1, false) = 1
-            told(1) = 16
+            told(1) = 19
             set(7, 0, 8) = 1
             set(7, 1, 8) = 1
             set(7, 2, 8) = 1
             set(7, 3, 8) = 1
             # each copy makes 1 and 4 and 40
             88 * copy(9, 7, true)
-            told(1) = 3976
+            told(1) = 3979
             grid(9, 9, 10, 1, false) = 1
-            grid(9, 9, 10, 1, false) = 1
-            told(1) = 3998
-            row(9, 0, 0) = 1
+            9 * row(9, 0, 0)
+            told(1) = 3999
             # one call may go beyond
             copy(9, 7, true) = 1
             told(1) = 4044
             """ + REFUSED + """
             told(1) = 4044
-            told(2) = 0
+            told(2) = 2
             get(0, 5, 0) = 0
-            told(2) = 1
+            told(2) = 3
             fault() = 4
             """);
         Script.run("exactly four thousand things", """
@@ -120,6 +173,23 @@ public final class LimitsTest {
             told(1) = 4000
             card(9) = FULL
             run(0) = FULL
+            """);
+        Script.run("one call may go beyond: a GRID, with its ROWS", """
+            storeys(7, 4) = 1
+            grid(8, 9, 10, 1, false) = 1
+            set(7, 0, 8) = 1
+            set(7, 1, 8) = 1
+            set(7, 2, 8) = 1
+            set(7, 3, 8) = 1
+            88 * copy(9, 7, true)
+            27 * row(9, 0, 0)
+            told(1) = 3999
+            grid(9, 8, 10, 40, false) = 1
+            told(1) = 4010
+            size(9, 0) = 10
+            size(9, 1) = 0
+            row(9, 0, 0) = FULL
+            told(1) = 4010
             """);
         Script.run("three thousand faults", READY + """
             # AGAIN nine times, in a TRY, in a LOOP: 9 faults in 22 steps, and SPENT
@@ -147,9 +217,9 @@ public final class LimitsTest {
             told(2) = 3134
             fault() = 1
             """ + REFUSED + """
-            told(2) = 3134
+            told(2) = 3136
             put(0, 5, 0, 1) = -14
-            told(2) = 3135
+            told(2) = 3137
             fault() = 4
             """);
         Script.run("exactly three thousand faults", """

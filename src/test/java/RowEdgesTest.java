@@ -295,6 +295,52 @@ public final class RowEdgesTest {
             size(1, 0) = 40
             told(1) = 2
             """);
+        Script.run("a new ROW, as long and of the LANE as the one that the BIN held", """
+            row(0, 4, 2) = 1
+            put(0, 4, 1, 5) = 1
+            share(1, 0) = 1
+            row(0, 4, 2) = 1
+            get(0, 4, 1) = 0
+            get(1, 4, 1) = 5
+            put(0, 4, 0, 6) = 1
+            get(1, 4, 0) = 0
+            alike(0, 1) = 0
+            told(1) = 2
+            """);
+        Script.run("a GRID's BAYS, each a new ROW", """
+            grid(0, 9, 3, 2, false) = 1
+            setBed(0, 9, 1, 0, 5) = 1
+            bed(0, 9, 0, 0) = 0
+            bed(0, 9, 1, 0) = 5
+            bed(0, 9, 2, 0) = 0
+            share(1, 0) = 1
+            grid(0, 9, 3, 2, false) = 1
+            bed(0, 9, 1, 0) = 0
+            bed(1, 9, 1, 0) = 5
+            told(1) = 8
+            """);
+        Script.run("new STOREYS, a new TRAY, a new CARD where the BIN held one", """
+            grid(9, 9, 1, 1, false) = 1
+            storeys(0, 1) = 1
+            set(0, 0, 9) = 1
+            share(1, 0) = 1
+            storeys(0, 1) = 1
+            size(0, 1) = 1
+            size(1, 1) = 0
+            plant(9, 0, 1, 1, 0, 0) = 0
+            tray(2, 12, 1) = 1
+            set(2, 0, 9) = 1
+            share(3, 2) = 1
+            tray(2, 12, 1) = 1
+            size(2, 1) = 1
+            size(3, 1) = 0
+            card(4) = 0
+            setField(4, 4, 7) = 1
+            share(5, 4) = 1
+            card(4) = 1
+            field(4, 4) = 0
+            field(5, 4) = 7
+            """);
         Script.run("A GRID has 0 to 10 BAYS, each a ROW, or not built", """
             grid(0, 8, 0, 40, false) = 1
             size(0, 0) = 0
@@ -917,6 +963,35 @@ public final class RowEdgesTest {
             card(4) = 2
             told(1) = 4
             plant(5, 0, 0, 0, 0, 0) = 1
+            """);
+        Script.run("copy: a CARD with the same leads, deep or not", """
+            card(0) = 0
+            card(1) = 1
+            plant(2, 0, 3, 3, 0, 0) = 0
+            lead(0, 0, 1) = 1
+            lead(0, 1, 2) = 1
+            lead(1, 0, 0) = 1
+            copy(3, 0, true) = 1
+            follow(4, 3, 0) = 1
+            alike(4, 1) = 2
+            follow(4, 3, 1) = 1
+            alike(4, 2) = 2
+            copy(5, 0, false) = 1
+            follow(4, 5, 0) = 1
+            alike(4, 1) = 2
+            follow(4, 5, 1) = 1
+            alike(4, 2) = 2
+            # the copy is none of the round: 2, 1, 0, and 1 again
+            led(3, 0) = 3
+            led(3, 1) = 1
+            led(0, 0) = 2
+            # one that leads to itself: its copy leads to it
+            lead(1, 0, 1) = 1
+            copy(6, 1, true) = 1
+            follow(7, 6, 0) = 1
+            alike(7, 1) = 2
+            alike(7, 6) = 1
+            led(6, 0) = 2
             """);
         Script.run("copy: deep, each place one of its own, though the same ROW stands in two", """
             row(0, 4, 1) = 1
