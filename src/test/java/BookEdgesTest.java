@@ -239,6 +239,19 @@ public final class BookEdgesTest {
             pest(0, 3) = 250000000
             pest(1, 0) = 100
             """);
+        Script.run("a SPRAY leaves the PARTS, which stay till others come", """
+            parts(0, 0, 1000, 500, 9) = 1
+            parts(0, 3, 7, 1000, 300) = 1
+            count(0, 0, 40) = 1
+            count(0, 3, 80) = 1
+            spray(0) = 1
+            # 10 by 1000, 500, 500 is 5, 3, 2; 20 by 7, 1000, 993 is 0, 10, 10; 60 are young
+            day(1) = 1
+            pest(0, 0) = 63
+            pest(0, 1) = 5
+            pest(0, 2) = 0
+            pest(0, 3) = 10
+            """);
         Script.run("for 7 DAYS then there is no PICKING (0: there is)", """
             wait1() = 0
             day(1) = 1

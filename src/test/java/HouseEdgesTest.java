@@ -1039,6 +1039,23 @@ public final class HouseEdgesTest {
             air(1, 5) = -1
             air(2, 5) = 0
             """);
+        Script.run("REST stays while there is no WISH, and when MARKS go or come", """
+            mark(0, 0, 0) = 1
+            read(0, d1.6) = 1
+            minute(1) = 1
+            air(0, 5) = 100
+            unmark(0) = 1
+            air(0, 5) = 100
+            minute(2) = 3
+            air(0, 5) = 100
+            mark(0, 0, 0) = 1
+            air(0, 5) = 100
+            minute(1) = 4
+            air(0, 5) = 200
+            read(0, dNaN) = 1
+            minute(1) = 5
+            air(0, 5) = 200
+            """);
         Script.run("MOVE is d / 400 and REST / 500 (each cut)", """
             mark(0, 0, 10000) = 1
             mark(1, 0, 10000) = 1

@@ -116,6 +116,13 @@ public final class LimitsTest {
         open1() = 1
         page(0, 1) = 1
         share(6, NONE) = 1
+        # what the calls between leave as it was
+        told(0) = 1
+        told(7) = 1
+        fault() = 1
+        answer() = 3
+        came() = 1
+        trace(0) = 1
         """;
 
     private static final String READY = """
