@@ -484,6 +484,10 @@ public final class FeedEdgesTest {
             salt(0, 0, 99) = 0
             salt(0, 0, 100) = BAD
             salt(3, 2, 99) = 0
+            salt(1, 0, 100) = BAD
+            salt(1, 2, -1) = BAD
+            salt(2, 1, 100) = BAD
+            salt(2, 0, -1) = BAD
             salt(3, 2, 100) = BAD
             salt(3, 2, -1) = BAD
             salt(0, 0, -1) = BAD

@@ -1495,6 +1495,10 @@ public final class HouseEdgesTest {
             minute(1) = 14
             air(0, 1) = 0
             air(0, 10) = 2
+            air(0, 11) = 0
+            air(0, -1) = 0
+            air(0, 2147483647) = 0
+            air(-1, 10) = 0
             """);
         Script.run("VAPOUR is 0 at least: none lacks", "line(0, 0, 48) = 1\n" + ready + """
             # 48 and 12, less 60
