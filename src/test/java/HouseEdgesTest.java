@@ -733,6 +733,10 @@ public final class HouseEdgesTest {
             unmark(0) = 6
             unmark(0) = 0
             unmark(1) = 1
+            mark(2, 5, 5) = 1
+            unmark(2) = 1
+            unmark(2) = 0
+            wish(2, 5) = -100001
             unmark(-1) = BAD
             unmark(3) = BAD
             mark(0, 0, 0) = 1

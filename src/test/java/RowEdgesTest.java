@@ -54,6 +54,41 @@ public final class RowEdgesTest {
             told(2) = 0
             fault() = 0
             """);
+        Script.run("BINS 0 .. 15: the last one is as the others", """
+            grid(15, 10, 2, 1, false) = 1
+            setBed(15, 10, 1, 0, d2.0) = 1
+            bed(15, 10, 1, 0) = d2.0
+            lift(0, 15, 1) = 1
+            get(0, 7, 0) = d2.0
+            lift(15, 15, 1) = 1
+            get(15, 7, 0) = d2.0
+            alike(0, 15) = 2
+            copy(15, 15, false) = 1
+            alike(0, 15) = 1
+            share(0, 15) = 1
+            alike(0, 15) = 2
+            storeys(15, 2) = 1
+            form(15) = 11
+            liftAs(14, 15, 1, 9) = 1
+            form(14) = NONE
+            share(15, 0) = 1
+            form(15) = 7
+            tray(15, 14, 1) = 1
+            form(15) = 14
+            plant(14, 0, 0, 0, 0, 0) = 0
+            set(15, 0, 14) = 1
+            liftAs(15, 15, 0, 16) = 1
+            form(15) = 16
+            card(15) = 0
+            lead(15, 1, 14) = 1
+            follow(13, 15, 1) = 1
+            alike(13, 14) = 2
+            follow(15, 15, 1) = 1
+            alike(15, 14) = 2
+            share(15, NONE) = 1
+            form(15) = NONE
+            told(2) = 0
+            """);
         Script.run("BAD: no such BIN, no such LANE: BITS are 0, and no FAULT comes", """
             row(0, 0, 2) = 1
             put(0, 0, 0, 1) = 1
