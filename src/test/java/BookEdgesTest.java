@@ -239,6 +239,26 @@ public final class BookEdgesTest {
             pest(0, 3) = 250000000
             pest(1, 0) = 100
             """);
+        Script.run("PARTS (0 .. 1000): the least and the greatest ones are as told", """
+            count(0, 0, 2000) = 1
+            parts(0, 0, 0, 1, 5) = 1
+            count(0, 3, 7) = 1
+            parts(0, 3, 1, 0, 1000) = 1
+            day(1) = 1
+            # 7 by 1, 0, 1999 is 0, 0, 7; 70 are young
+            pest(0, 0) = 71
+            pest(0, 1) = 0
+            pest(0, 3) = 0
+            count(1, 1, 2000) = 1
+            parts(1, 1, 1, 0, 0) = 1
+            count(1, 3, 2000) = 1
+            parts(1, 3, 1000, 1000, 999) = 1
+            day(1) = 2
+            pest(1, 0) = 19980
+            pest(1, 1) = 0
+            pest(1, 2) = 1
+            pest(1, 3) = 1000
+            """);
         Script.run("a SPRAY leaves the PARTS, which stay till others come", """
             parts(0, 0, 1000, 500, 9) = 1
             parts(0, 3, 7, 1000, 300) = 1
@@ -451,6 +471,32 @@ public final class BookEdgesTest {
 
     /** The byte that would come then, and all behind it, are not written; what lay there stays. */
     private static void powerAtEachByte() {
+        Script.run("POWER may be set to go behind n bytes (0 .. 200): behind 200 and behind 199", """
+            row(0, 5, 1) = 1
+            damage(3, 7, 9) = 9
+            damage(3, 8, 9) = 9
+            power(200) = 1
+            write(0) = 1
+            write(0) = 2
+            write(0) = 3
+            told(5) = 0
+            write(0) = NO
+            octet(3, 5) = 1
+            octet(3, 7) = 0
+            octet(3, 8) = 9
+            """);
+        Script.run("POWER behind 199", """
+            row(0, 5, 1) = 1
+            damage(3, 7, 9) = 9
+            damage(3, 6, 9) = 9
+            power(199) = 1
+            write(0) = 1
+            write(0) = 2
+            write(0) = 3
+            write(0) = NO
+            octet(3, 6) = 0
+            octet(3, 7) = 9
+            """);
         GlassHouse whole = new GlassHouse();
         fill(whole);
         whole.write(0);

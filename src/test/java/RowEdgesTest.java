@@ -89,6 +89,61 @@ public final class RowEdgesTest {
             form(15) = NONE
             told(2) = 0
             """);
+        Script.run("BINS 0 .. 15: the last one is none of those ahead of it", """
+            row(15, 4, 2) = 1
+            put(15, 4, 0, 5) = 1
+            put(15, 4, 1, 6) = 1
+            row(14, 4, 2) = 1
+            is(15, 4) = 1
+            shift(15, 0, 14, 1, 1) = 1
+            get(14, 4, 0) = 0
+            get(14, 4, 1) = 5
+            shift(14, 1, 15, 1, 1) = 1
+            get(15, 4, 1) = 5
+            wholeMean(15) = 1
+            answer() = 5
+            wholeMean(14) = 1
+            answer() = 2
+            row(14, 7, 1) = 1
+            is(15, 4) = 1
+            is(14, 4) = 0
+            row(15, 7, 1) = 1
+            put(15, 7, 0, d3.0) = 1
+            real(7, 15, 1) = d3.0
+            real(7, 14, 1) = 0
+            compare(7, 15, 0, 14, 0) = 44
+            compare(7, 14, 0, 15, 0) = 35
+            grid(13, 9, 1, 1, false) = 1
+            storeys(15, 1) = 1
+            set(15, 0, 13) = 1
+            storeys(14, 1) = 1
+            countUp(15, 0, 0, 0, true) = 1
+            countUp(14, 0, 0, 0, true) = 0
+            plant(14, 0, 1, 1, 0, 0) = 0
+            plant(15, 0, 2, 2, 0, 0) = 1
+            ask(15, 0) = 1
+            answer() = 2
+            ask(14, 0) = 1
+            answer() = 1
+            # 14 and 15 are told apart: a part that is NOTHING is NULL, in its turn
+            share(15, NONE) = 1
+            plant(0, 2, 0, 0, 15, 14) = 2
+            ask(0, 0) = -11
+            trace(1) = NONE
+            plant(0, 2, 0, 0, 14, 15) = 3
+            ask(0, 0) = -11
+            trace(1) = 1
+            row(2, 4, 1) = 1
+            put(2, 4, 0, 1) = 1
+            shares(2, 9, 15) = 1
+            form(15) = 5
+            form(14) = 16
+            grid(0, 9, 1, 1, false) = 1
+            form(1) = NONE
+            liftAs(1, 0, 0, 4) = 1
+            form(1) = 4
+            form(0) = 9
+            """);
         Script.run("BAD: no such BIN, no such LANE: BITS are 0, and no FAULT comes", """
             row(0, 0, 2) = 1
             put(0, 0, 0, 1) = 1
@@ -454,6 +509,17 @@ public final class RowEdgesTest {
             grid(0, 10, -1, 0, false) = -13
             size(0, 0) = 10
             told(1) = 13
+            """);
+        Script.run("BAYS of 40 CELLS", """
+            grid(0, 8, 10, 40, false) = 1
+            setBed(0, 8, 9, 39, 4) = 1
+            bed(0, 8, 9, 39) = 4
+            bed(0, 8, 0, 39) = 0
+            told(2) = 0
+            bed(0, 8, 9, 40) = 0
+            fault() = 2
+            lift(1, 0, 0) = 1
+            size(1, 0) = 40
             """);
         Script.run("grid: SIZE: a, or n (not bare), is below 0", """
             grid(0, 9, 0, -1, false) = -13
