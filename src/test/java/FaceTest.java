@@ -175,6 +175,14 @@ public final class FaceTest {
                 }
             }
             due(fields <= 20, one + " has " + fields + " fields");
+            parameters(one);
+        }
+        parameters(GlassHouse.class);
+    }
+
+    private static void parameters(Class<?> one) {
+        for (Method method : one.getDeclaredMethods()) {
+            due(method.getParameterCount() <= 7, one + " " + shape(method) + " has more than seven parameters");
         }
     }
 
