@@ -259,6 +259,25 @@ public final class BookEdgesTest {
             pest(1, 2) = 1
             pest(1, 3) = 1000
             """);
+        Script.run("the young by 100, cut: also of more than ints hold", """
+            parts(0, 3, 1000, 0, 1000) = 1
+            count(0, 3, 300000000) = 1
+            day(1) = 1
+            pest(0, 0) = 1000000000
+            count(0, 0, 0) = 1
+            count(0, 3, 99999999) = 1
+            day(1) = 2
+            pest(0, 0) = 999999990
+            count(0, 0, 0) = 1
+            parts(0, 3, 0, 0, 999) = 1
+            count(0, 3, 100100100) = 1
+            day(1) = 3
+            pest(0, 0) = 999999999
+            count(0, 3, 1000000000) = 1
+            parts(0, 3, 0, 0, 100) = 1
+            day(1) = 4
+            pest(0, 0) = 1000000000
+            """);
         Script.run("a SPRAY leaves the PARTS, which stay till others come", """
             parts(0, 0, 1000, 500, 9) = 1
             parts(0, 3, 7, 1000, 300) = 1

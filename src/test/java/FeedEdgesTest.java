@@ -77,6 +77,25 @@ public final class FeedEdgesTest {
     }
 
     private static void sharesRefused() {
+        Script.run("SHARES: rests that are no ints", """
+            row(0, 4, 4) = 1
+            put(0, 4, 0, 2147483647) = 1
+            put(0, 4, 1, 2147483646) = 1
+            put(0, 4, 2, 1) = 1
+            put(0, 4, 3, 2147483645) = 1
+            # the rests are 4294967294, 4294967292, 2, 4294967290
+            shares(0, 2, 1) = 1
+            get(1, 5, 0) = 1
+            get(1, 5, 1) = 1
+            get(1, 5, 2) = 0
+            get(1, 5, 3) = 0
+            # 2147483649, 2147483645, 4, 2147483641
+            shares(0, 4, 1) = 1
+            get(1, 5, 0) = 2
+            get(1, 5, 1) = 1
+            get(1, 5, 2) = 0
+            get(1, 5, 3) = 1
+            """);
         Script.run("shares: BAD: BINS, n (0 .. 1000000000); CAST, NULL ahead of NO", """
             row(0, 4, 1) = 1
             put(0, 4, 0, 1) = 1

@@ -341,6 +341,17 @@ public final class HouseEdgesTest {
     }
 
     private static void offAndNear() {
+        Script.run("PART (a REAL): a tenth is the double, not the float", """
+            part(d0.1) = 1
+            read(0, d0.0) = 1
+            read(3, d0.1) = 1
+            read(6, d-0.1000000005) = 1
+            minute(1) = 1
+            probe(3, 2) = 0
+            probe(3, 3) = 1
+            probe(6, 2) = 1
+            probe(6, 3) = 0
+            """);
         Script.run("OFF, if its READING less THE VALUE, without sign, is above PART, else NEAR", """
             part(d0.25) = 1
             read(0, d20.25) = 1
